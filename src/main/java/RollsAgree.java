@@ -1045,46 +1045,39 @@ public final class RollsAgree {
                 return wrong();
             }
             parts++;
-            int token = token();
-            if (token >= NUMBER && token <= NUMBER + MOST_NUMBER) {
+            int found = token();
+            if (found >= NUMBER && found <= NUMBER + MOST_NUMBER) {
                 next++;
-                text.put(Text.NUMBER, token - NUMBER);
+                text.put(Text.NUMBER, found - NUMBER);
                 return true;
             }
             if (ordering) {
-                return orderWord(token);
+                return orderWord(found);
             }
-            if (token < PERSON || token > MOOD_WORD) {
+            if (found < PERSON || found > MOOD_WORD) {
                 return wrong();
             }
             next++;
-            text.put(Text.WORD, token - PERSON);
+            text.put(Text.WORD, found - PERSON);
             return true;
         }
 
-        private boolean orderWord(int token) {
-            if (token == AGREES) {
-                return numberedWord(Orders.AGREES, MOST_ROLLS);
-            }
-            if (token == MARK) {
-                return numberedWord(Orders.MARKS, MOST_PEOPLE * DAYS);
-            }
-            if (token != WEEK_WORD && (token < DONE || token > LIVING)) {
+        private boolean orderWord(int word) {
+            boolean isNumbered = word == AGREES || word == MARK;
+            if (!isNumbered && word != WEEK_WORD && (word < DONE || word > LIVING)) {
                 return wrong();
             }
             next++;
-            text.put(Text.WORD, token == WEEK_WORD ? Orders.WEEK_NOW : Orders.DONE + token - DONE);
-            return true;
-        }
-
-        private boolean numberedWord(int word, int many) {
-            next++;
+            if (!isNumbered) {
+                text.put(Text.WORD, word == WEEK_WORD ? Orders.WEEK_NOW : Orders.DONE + word - DONE);
+                return true;
+            }
             int number = token() - NUMBER;
-            if (number < 0 || number >= many) {
+            if (number < 0 || number >= (word == AGREES ? MOST_ROLLS : MOST_PEOPLE * DAYS)) {
                 return wrong();
             }
             next++;
-            text.put(Text.WORD, word + number);
+            text.put(Text.WORD, (word == AGREES ? Orders.AGREES : Orders.MARKS) + number);
             return true;
         }
     }

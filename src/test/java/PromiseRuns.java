@@ -624,6 +624,10 @@ public final class PromiseRuns {
             due(test, y.asks(0, 1, 2, 2), 1);
             due("not of the other: " + test, y.asks(1, 0, 2, 2), 0);
         }
+        RollsAgree both = under(folk(1, 2, 3), "bars if mark*10+its=23;takes 1 if mark*10+its=32");
+        due("mark and its", both.asks(0, 1, 0, 2), 1);
+        due("mark and its", both.asks(1, 0, 0, 2), 0);
+        due("mark and its", both.asks(1, 0, 0, 0), 1);
         String[] ofBoth = {"day=2", "week=321", "mood=7"};
         RollsAgree z = new RollsAgree();
         z.person(3, 31, 0);
@@ -665,12 +669,13 @@ public final class PromiseRuns {
         String[] so = {"1=1", "1<2", "2>1", "not 1=2", "not not 1=1", "1=1 or 1=2", "1=2 or 1=1", "1=1 or 1/0=1",
             "1=2 and 1/0=1 or 1=1", "1=1 or 1=1 and 1=2", "not 1=1 or 1=1", "not 1=2 and 1=1", "(1=2 or 1=1) and 1=1",
             "not (1=2 and 1/0=1)", "1000*1000*1000=1000*1000*1000", "0-1000*1000*1000<0", "1=2 or 1=2 or 1=1",
-            "1=1 and 1=1 and 1=1", "[1+1]*2=4", "0-1<0"};
+            "1=1 and 1=1 and 1=1", "[1+1]*2=4", "0-1<0", "not 0=1", "not 5=7", "not (3<1 or 4<1)"};
         for (String test : so) {
             due("so " + test, under(folk(1, 0, 0), "bars if " + test).asks(0, 1, 0, 2), 1);
         }
         String[] notSo = {"1=2", "1<1", "1>1", "2<1", "not 1=1", "1=1 and 1=2", "1=2 and 1/0=1", "1=2 or 1=2",
-            "not (1=1 or 1/0=1)", "1=2 and 1=1 or 1=2", "(1=1 or 1=1) and 1=2", "not not 1=2", "1=1 and 1=1 and 1=2"};
+            "not (1=1 or 1/0=1)", "1=2 and 1=1 or 1=2", "(1=1 or 1=1) and 1=2", "not not 1=2", "1=1 and 1=1 and 1=2", "not 5=5", "not 7<9",
+            "not (3>1 and 4>2)"};
         for (String test : notSo) {
             due("not so " + test, under(folk(1, 0, 0), "bars if " + test).asks(0, 1, 0, 2), 0);
         }
@@ -828,6 +833,19 @@ public final class PromiseRuns {
         due("stays", y.of(0, 3), 1);
         due("the other one", y.undo(), 0);
         due("is back", y.of(0, 3), 0);
+        RollsAgree z = new RollsAgree();
+        for (int i = 0; i < 6; i++) {
+            z.person(i, i, marks(i % 4, (i + 1) % 4, (i + 2) % 4, (i + 3) % 4));
+        }
+        for (int day = 0; day < 4; day++) {
+            due("talk of day " + day, z.talk(5 - day, day / 2, day), (5 - day) % 4 == day / 2 ? 0 : 1);
+        }
+        for (int day = 3; day >= 0; day--) {
+            due("undone of day " + day, z.undo(), 0);
+            for (int i = 0; i < 6; i++) {
+                due("mark of " + i + " of day " + day, z.of(i, 3 + day), (i + day) % 4);
+            }
+        }
     }
 
     private static void soonest() {
@@ -940,6 +958,14 @@ public final class PromiseRuns {
         v.roll(0, 3);
         due("now too, and later", v.ends(0), 7);
         due("now", v.house(0, 0), 0);
+        RollsAgree u = folk(5, 0, 1, 2, 1, 0, 3);
+        u.roll(0, 63);
+        due("all six", u.house(0, 1), 63);
+        due("five talks", u.soonest(0, NONE), 5);
+        due("first", u.soonest(0, 0), 5);
+        due("last", u.soonest(0, 4), 45);
+        u.talk(0, 5, 0);
+        due("five", u.house(0, 1), 62);
     }
 
     private static void givings() {
@@ -981,6 +1007,10 @@ public final class PromiseRuns {
         due("by rolls not done", y.givings(5), 1);
         due("one gives", y.givings(0), 1);
         due("0 is on none", y.givings(1), 2);
+        RollsAgree z = folk(1, 1, 0, 0);
+        z.roll(0, 7);
+        due("the commonest is 0", z.givings(1), 0);
+        due("one gives", z.givings(0), 1);
     }
 
     private static void toldAndForget() {
@@ -1121,6 +1151,10 @@ public final class PromiseRuns {
         x.bury(2);
         due("the dead don't talk", x.chatter(0, 0), 1);
         due("theirs stays", x.chatter(0, 2), 2);
+        RollsAgree v = new RollsAgree();
+        due("nobody", v.chatter(0, NONE), 1);
+        due("nobody, day", v.chatter(4, NONE), NONE);
+        due("nobody", v.chatter(0, 0), NONE);
         RollsAgree y = under(folk(5, 0, 1), "takes its");
         due("never", y.chatter(0, NONE), NONE);
         due("never", y.chatter(0, 0), NONE);
@@ -1319,6 +1353,17 @@ public final class PromiseRuns {
         x.back(0);
         x.back(1);
         due("kept anew", x.of(1, 2), 0);
+        RollsAgree y = folk(5, 0, 3);
+        y.image(0);
+        under(y, "takes 1");
+        y.image(1);
+        y.back(0);
+        under(y, "takes 2");
+        due("the newer law 0", y.asks(0, 1, 0, 0), 2);
+        y.back(1);
+        due("the older law 0", y.asks(0, 1, 0, 0), 1);
+        y.back(0);
+        due("no law", y.asks(0, 1, 0, 0), 3);
     }
 
     private static void count() {
