@@ -252,6 +252,7 @@ public final class PromiseRuns {
         due("no room", x.feed(0, 0, 0, 0, 0), NONE);
         due("status of feed", x.status(), 0);
         due("tape", x.count(7), 400);
+        due("end(400)", x.end(400), 400);
         due("end(401)", x.end(401), NONE);
         due("end(-1)", x.end(-1), NONE);
         due("end(381)", x.end(381), 381);
@@ -368,6 +369,21 @@ public final class PromiseRuns {
         lawful("bars if1=1and2>1or not3<1");
         lawful("takes person+other-mark*its/firm%age+[day-week]*mood");
         lawful("takes its ; sways firm ; bars if not ( mark = its )");
+        // What was on the tape behind its end is not read.
+        RollsAgree x = new RollsAgree();
+        put(x, "barsbarsbarsbarsbars");
+        x.end(4);
+        due("bars", x.law(), 0);
+        put(x, "takes 11111111111111");
+        x.end(7);
+        due("takes 1", x.law(), 1);
+        put(x, "takes 1+1 if mark=1;");
+        x.end(8);
+        due("takes 1+", x.law(), -6);
+        due("its end", x.fault(), 8);
+        put(x, "bars         ;bars");
+        x.end(9);
+        due("bars", x.law(), 2);
     }
 
     private static void lawLimits() {
@@ -728,8 +744,10 @@ public final class PromiseRuns {
         due("another day", x.develop(3), 0);
         x.bury(2);
         due("agrees now", x.develop(1), 3);
+        due("done already", x.develop(1), -3);
+        due("done", x.at(1, 2) * 10 + x.at(2, 2), 10);
         due("nobody lives", x.develop(2), 100);
-        due("status", x.status(), 0);
+        due("nobody lives, done", x.develop(2), -3);
         due("done", x.count(3), 4);
     }
 
@@ -1259,6 +1277,13 @@ public final class PromiseRuns {
         due("nothing", w.drawn(0, 0), NONE);
         RollsAgree v = under(folk(5, 0, 0, 0), "takes 1 if week=0;takes 2 if week=1");
         due("the weeks pass on paper", v.years(0, 2), changesOfTwoWeeks());
+        RollsAgree swap = new RollsAgree();
+        swap.person(5, 0, marks(0, 2, 0, 0));
+        swap.person(5, 0, marks(0, 3, 0, 0));
+        swap.person(5, 0, marks(0, 1, 0, 0));
+        under(swap, "takes its");
+        due("both change", swap.years(0, 1), 2);
+        due("each its own", swap.drawn(0, 1) * 100 + swap.drawn(1, 1) * 10 + swap.drawn(2, 1), 213);
         // There and back: each change counts.
         RollsAgree u = under(folk(5, 0, 0), "takes 1-mark");
         due("each change counts", u.years(7, 100) > 16 ? 1 : 0, 1);
