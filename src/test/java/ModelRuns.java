@@ -11,8 +11,9 @@ import java.util.Set;
 import java.util.TreeMap;
 
 /**
- * Long runs of drawn calls, each answer held against a second, slow program that was written from
- * the document alone and shares no code with the class. The draws are the same each time.
+ * Long runs of drawn calls, each answer held against a second, slow program that shares no code with
+ * the class. It is by the same hand and reads the document the same way (see NOTES.md), so it finds
+ * slips, not misreadings. The draws are the same each time.
  */
 public final class ModelRuns {
     private static final int RUNS = 1500;
