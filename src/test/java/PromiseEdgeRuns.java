@@ -23,6 +23,7 @@ public final class PromiseEdgeRuns extends Edges {
         pass();
         undo();
         undoKept();
+        undoMixed();
         undoBehindOthers();
         soonest();
         ends();
@@ -486,6 +487,13 @@ public final class PromiseEdgeRuns extends Edges {
         due("one", folk(1, 1, 2).talk(0, 1, 0), 1);
         due("two", under(folk(1, 1, 2), "takes 3").talk(0, 1, 0), 2);
         due("the higher one first", folk(1, 1, 2).talk(1, 0, 0), 1);
+        for (int own = 0; own < 4; own++) {
+            for (int its = 0; its < 4; its++) {
+                due("of " + own + " and " + its, folk(1, own, its).talk(0, 1, 0), own == its ? 0 : 1);
+                due("both, of " + own + " and " + its, under(folk(1, own, its), "takes its").talk(0, 1, 0), own == its ? 0 : 2);
+                due("3, of " + own + " and " + its, under(folk(1, own, its), "takes 3").talk(0, 1, 0), (own == 3 ? 0 : 1) + (its == 3 ? 0 : 1));
+            }
+        }
 
         edge("17", "-1 (a DAY; one with itself); -2; -3.");
         RollsAgree x = folk(1, 0, 1, 2);
@@ -589,6 +597,19 @@ public final class PromiseEdgeRuns extends Edges {
         due("by orders: develop", x.undo(), 1);
         due("by orders: talk", x.undo(), 0);
         due("marks", x.of(0, 3) * 10 + x.of(1, 3), 12);
+        RollsAgree six = under(new RollsAgree(), "takes 3-mark");
+        for (int i = 0; i < 6; i++) {
+            six.person(1, 1, marks(i % 4, (i + 1) % 4, (i + 2) % 4, (i + 3) % 4));
+        }
+        for (int i = 0; i < 16; i++) {
+            six.talk(i % 6, (i + 1 + i / 6) % 6, i % 4);
+        }
+        for (int i = 0; i < 16; i++) {
+            due("a talk", six.undo(), 0);
+        }
+        for (int i = 0; i < 24; i++) {
+            due("mark " + i, six.of(i / 4, 3 + i % 4), (i / 4 + i % 4) % 4);
+        }
 
         edge("21", "-3 there is none");
         due("none", x.undo(), -3);
@@ -633,6 +654,28 @@ public final class PromiseEdgeRuns extends Edges {
         }
         due("the 17th", x.undo(), -3);
         due("week", x.count(14), 1);
+    }
+
+    private static void undoMixed() {
+        edge("21", "16 are kept) is undone: 0 .. 3.");
+        RollsAgree x = folk(1, 0, 0, 0, 0, 0, 0);
+        for (int i = 0; i < 6; i++) {
+            x.roll(i % 4, 1 << i);
+        }
+        int[] kinds = new int[20];
+        for (int i = 0; i < 20; i++) {
+            kinds[i] = i < 14 && i % 3 == 1 ? 1 : i >= 12 && i % 4 == 2 ? 2 : i % 5 == 0 ? 0 : 3;
+            int answer = kinds[i] == 0 ? x.talk(0, 1, i % 4) : kinds[i] == 1 ? x.develop(i / 3) : kinds[i] == 2 ? x.bury(i / 4) : x.pass();
+            due("deed " + i, Math.min(answer, 0), 0);
+            due("kept " + i, x.count(6), Math.min(i + 1, 16));
+        }
+        for (int i = 19; i >= 4; i--) {
+            due("undone " + i, x.undo(), kinds[i]);
+        }
+        due("all live", x.count(1), 6);
+        due("0 was done too early to be undone", x.at(0, 2), 1);
+        due("that alone", x.count(3), 1);
+        due("as many weeks as too early", x.count(14), 2);
     }
 
     private static void undoBehindOthers() {
@@ -748,6 +791,10 @@ public final class PromiseEdgeRuns extends Edges {
             due("roll " + roll, x.house(roll, 0), NONE);
             due("roll " + roll + ", who", x.house(roll, 1), NONE);
         }
+        RollsAgree six = folk(1, 1, 2, 3, 1, 2, 0);
+        six.roll(0, 63);
+        due("all six", six.house(0, 0), 6);
+        due("all six, who", six.house(0, 1), 63);
         under(x, "bars");
         due("it can't be", x.house(0, 0), NONE);
         due("nor who", x.house(0, 1), NONE);
@@ -820,6 +867,13 @@ public final class PromiseEdgeRuns extends Edges {
         due("none is left", x.count(4), 0);
         due("it tells no status", x.status(), -5);
         due("from one on", x.told(0, 1, 0), 1);
+        RollsAgree y = under(folk(1, 1, 2), "takes its");
+        y.told(0, 1, 0);
+        y.told(0, 1, 0);
+        due("twice: as now", y.were(0, 0, 0), 1);
+        y.forget();
+        y.told(0, 1, 0);
+        due("once: crosswise", y.were(0, 0, 0), 2);
     }
 
     private static void were() {
@@ -871,6 +925,9 @@ public final class PromiseEdgeRuns extends Edges {
             due("day " + day + ", left", x.ask(day, 1), NONE);
         }
         due("the last day", x.ask(3, 1), 1);
+        for (int mark = 0; mark < 4; mark++) {
+            due("one is left of all at " + mark, folk(1, mark, mark).ask(0, 1), 1);
+        }
         RollsAgree y = folk(1, 1, 2);
         y.told(0, 1, 0);
         due("no row", y.ask(0, 0), NONE);
@@ -905,6 +962,7 @@ public final class PromiseEdgeRuns extends Edges {
         due("nor a mark", clock(0).chatter(0, 0), NONE);
         due("nobody", new RollsAgree().chatter(0, NONE), 1);
         due("nobody's mark", new RollsAgree().chatter(0, 0), NONE);
+        due("nobody, of no day", new RollsAgree().chatter(4, NONE), NONE);
         due("only on paper", x.of(0, 3), 0);
     }
 

@@ -16,6 +16,9 @@ public final class TermsEdgeRuns extends Edges {
         parts();
         brackets();
         faults();
+        lawsForm();
+        ordersForm();
+        sumsForm();
         farSums();
         dividedSums();
         brokenTests();
@@ -24,6 +27,7 @@ public final class TermsEdgeRuns extends Edges {
         holdingClauses();
         sways();
         takes();
+        lawsWords();
         bars();
         times();
         numberedWords();
@@ -32,6 +36,7 @@ public final class TermsEdgeRuns extends Edges {
         ordersThatCannotBe();
         talks();
         deeds();
+        onPaper();
         soonest();
         endsAndHouse();
         givings();
@@ -470,6 +475,11 @@ public final class TermsEdgeRuns extends Edges {
         faulty(false, "takes 1 if mark <", 17);
         faulty(false, "takes 1 if (mark<1", 18);
         faulty(false, "takes 1 if mark<1 or", 20);
+        faulty(false, "takes 1 if mark<1 or ?", 21);
+        faulty(false, "takes 1 if mark<1 and", 21);
+        faulty(false, "takes 1 if mark<1 and ?", 22);
+        faulty(false, "takes 1 if not", 14);
+        faulty(false, "takes 1 if (mark<1 and ?)", 23);
         faulty(false, "bars;takes ?;sways ?", 11);
         faulty(true, "", 0);
         faulty(true, "talk", 4);
@@ -482,6 +492,94 @@ public final class TermsEdgeRuns extends Edges {
         faulty(true, "pass;pass ?;bars", 10);
         faulty(true, "develop agrees", 14);
         faulty(true, "develop mark 0 0", 15);
+    }
+
+    private static void lawsForm() {
+        edge("terms II", "CLAUSE: ((\"takes\" | \"sways\") SUM | \"bars\") [\"if\" TEST].");
+        lawful("takes 1");
+        lawful("sways 1 if 1=1");
+        lawful("bars if 1=1");
+        for (String kind : new String[] {"takes", "sways"}) {
+            faulty(false, kind, 5);
+            faulty(false, kind + " if 1=1", 6);
+            faulty(false, kind + ";bars", 5);
+            faulty(false, kind + " 1 1", 8);
+            faulty(false, kind + " 1=1", 7);
+            faulty(false, kind + " (1)", 6);
+            faulty(false, kind + " -1", 6);
+            faulty(false, kind + " 1 if", 10);
+            faulty(false, kind + " 1 if 1=1 if 1=1", 15);
+            faulty(false, kind + " 1 times 2", 8);
+        }
+        faulty(false, "bars 1", 5);
+        faulty(false, "bars if", 7);
+        faulty(false, "bars times 2", 5);
+        for (String kind : new String[] {"talk", "develop", "bury", "pass", "if", "mark", "1", "times", "and"}) {
+            faulty(false, kind + " 1", 0);
+        }
+
+        edge("terms II", "Words: \"person\" | \"other\" | \"mark\" | \"its\" | \"firm\" | \"age\" | \"day\" | \"week\" | \"mood\".");
+        lawful("takes person+other+mark+its+firm+age+day+week+mood");
+        for (String word : new String[] {"done", "latest", "living", "agrees", "people", "rate", "takes", "bars", "if", "or", "not", "times", "with", "of", "pass"}) {
+            faulty(false, "takes " + word, 6);
+            faulty(false, "bars if mark=" + word, 13);
+        }
+        faulty(false, "takes mark 0", 11);
+    }
+
+    private static void ordersForm() {
+        edge("terms II", "CLAUSE: (\"talk\" SUM \"with\" SUM \"of\" SUM | \"develop\" SUM | \"bury\" SUM | \"pass\") [\"times\" TIMES] [\"if\" TEST].");
+        faulty(true, "talk with 1 of 2", 5);
+        faulty(true, "talk 0 with of 2", 12);
+        faulty(true, "talk 0 with 1 of", 16);
+        faulty(true, "talk 0 with 1 of if 1=1", 17);
+        faulty(true, "talk 0 of 2 with 1", 7);
+        faulty(true, "talk 0 with 1 of 2 of 3", 19);
+        faulty(true, "talk 0 1 2", 7);
+        faulty(true, "develop", 7);
+        faulty(true, "develop 0 0", 10);
+        faulty(true, "develop times 2", 8);
+        faulty(true, "bury", 4);
+        faulty(true, "bury if 1=1", 5);
+        faulty(true, "bury 0 with 1", 7);
+        faulty(true, "pass 1", 5);
+        faulty(true, "pass if 1=1 times 2", 12);
+        faulty(true, "pass times 2 times 2", 13);
+        faulty(true, "pass if 1=1 if 1=1", 12);
+        for (String kind : new String[] {"takes", "sways", "bars", "if", "week", "1", "times", "undo"}) {
+            faulty(true, kind + " 1", 0);
+        }
+        due("all parts of one", orders(folk(1, 0, 1), "talk 0 with 1 of 0 times 2 if week=0"), 2);
+
+        edge("terms II", "Words: \"week\" | \"done\" | \"latest\" | \"living\" | \"agrees\" R | \"mark\" N");
+        due("all", orders(new RollsAgree(), "pass if week+done+latest+living+agrees 0+mark 0=0-3"), 1);
+        for (String word : new String[] {"person", "other", "its", "firm", "age", "day", "mood", "rate", "talk", "pass", "if", "or", "not", "times", "with"}) {
+            faulty(true, "bury " + word, 5);
+            faulty(true, "pass if week=" + word, 13);
+        }
+    }
+
+    private static void sumsForm() {
+        edge("terms II", "SUM: TERM {(\"+\" | \"-\") TERM}. TERM: PART {(\"*\" | \"/\" | \"%\") PART}.");
+        takes("9-3-3", 3);
+        takes("9-[3-3]-6", 3);
+        takes("7-5+1", 3);
+        takes("1+1*2", 3);
+        takes("[1+1]*2-1", 3);
+        takes("12/2/2", 3);
+        takes("12/[2/2]-9", 3);
+        takes("3*7%4-0", 1);
+        takes("7%4*1", 3);
+        takes("2+8/4*2-4%3-2", 3);
+        faulty(false, "takes 1+-1", 8);
+        faulty(false, "takes 1**1", 8);
+        faulty(false, "takes +1", 6);
+        faulty(false, "takes 1%", 8);
+        faulty(false, "takes []", 7);
+        faulty(false, "takes [1", 8);
+        faulty(false, "takes [1)", 8);
+        faulty(false, "takes 1]", 7);
+        faulty(false, "takes [mark=1]", 11);
     }
 
     /** What 0 takes by a sum; 1 if that is broken. */
@@ -590,6 +688,11 @@ public final class TermsEdgeRuns extends Edges {
         isSo("0-1<0", 1);
         isSo("0>0-1", 1);
         isSo("not 1<2", 0);
+        isSo("not 2>1", 0);
+        isSo("not 1=1", 0);
+        isSo("not 2<1", 1);
+        isSo("not 1>2", 1);
+        isSo("not 1=2", 1);
         isSo("not not 1<2", 1);
         isSo("not 1=1 or 1=1", 1);
         isSo("not (1=1 or 1=1)", 0);
@@ -688,11 +791,42 @@ public final class TermsEdgeRuns extends Edges {
             x.person(firm, 0, marks(2, 0, 0, 0));
             due("the lower one, 4 to " + firm, x.asks(0, 1, 0, 0), firm >= 4 ? 2 : 1);
             due("the higher one, " + firm + " to 4", x.asks(1, 0, 0, 0), firm >= 4 ? 2 : 1);
+            due("they talk", x.talk(0, 1, 0), 1);
+            due("both have it", x.of(0, 3) * 10 + x.of(1, 3), firm >= 4 ? 22 : 11);
+            x.undo();
+            due("the higher one first", x.talk(1, 0, 0), 1);
+            due("both have it", x.of(0, 3) * 10 + x.of(1, 3), firm >= 4 ? 22 : 11);
         }
         RollsAgree y = under(folk(9, 1, 2), "sways 0 if person=1");
         due("by sways, not by firm", y.asks(0, 1, 0, 0) * 10 + y.asks(1, 0, 0, 0), 11);
         RollsAgree z = under(folk(9, 1, 2), "sways 9;sways 10 if person=0");
         due("10 is as much as 9", z.asks(0, 1, 0, 0) * 10 + z.asks(1, 0, 0, 0), 22);
+    }
+
+    private static void lawsWords() {
+        edge("terms II", "All are asked of a PERSON that talks with another one of a DAY: mark: what the PERSON has, its: what the other one has.");
+        RollsAgree x = new RollsAgree();
+        x.person(9, 99, marks(0, 1, 2, 3));
+        for (int i = 0; i < 4; i++) {
+            x.person(5, 50, 0);
+        }
+        x.person(0, 0, marks(3, 2, 1, 0));
+        x.terms(0, 999);
+        x.terms(2, 9);
+        String[] words = {"person", "other", "mark", "its", "firm", "age", "day", "week", "mood"};
+        int[][] due = {{0, 5, 3, 0, 9, 99, 3, 999, 9}, {5, 0, 0, 3, 0, 0, 3, 999, 9}};
+        for (int i = 0; i < words.length; i++) {
+            x.image(0);
+            under(x, "bars if person=" + due[0][0] + " and " + words[i] + "=" + due[0][i]);
+            due("the first's " + words[i], x.asks(0, 5, 3, 2), 1);
+            under(x, "bars if person=" + due[1][0] + " and " + words[i] + "=" + due[1][i]);
+            due("the last's " + words[i], x.asks(5, 0, 3, 2), 1);
+            x.back(0);
+        }
+        under(x, "takes mark if person=0;takes its if person=5");
+        for (int day = 0; day < 4; day++) {
+            due("of day " + day, x.asks(0, 5, day, 0) * 10 + x.asks(5, 0, day, 0), 11 * day);
+        }
     }
 
     private static void bars() {
@@ -898,6 +1032,53 @@ public final class TermsEdgeRuns extends Edges {
         due("once more", x.pass(), 999);
     }
 
+    private static void onPaper() {
+        edge("terms III", "(On paper, WEEK as now:)");
+        RollsAgree x = under(folk(1, 0, 0, 0), "takes mark+1 if week=999;bars if week<998");
+        x.roll(0, 7);
+        x.roll(1, 1);
+        x.terms(0, 999);
+        // 1 of all three is an odd number of steps, and each talk makes two.
+        due("ends", x.ends(0), 13);
+        due("soonest", x.soonest(0, NONE), 0);
+        due("house", x.house(0, 0), 0);
+        // 1 1 0, 2 1 1, 2 2 2; 3 3 2, 3 3 3; then nothing.
+        due("chatter", x.chatter(0, NONE), 3);
+        due("chatter's marks", x.chatter(0, 0) + x.chatter(0, 1) + x.chatter(0, 2), 9);
+        x.told(0, 1, 0);
+        due("no row goes up to 0", x.were(0, NONE, 0), 0);
+        x.givings(0);
+        x.chance(0, 9);
+        x.years(0, 1);
+        for (int i = 0; i < 12; i++) {
+            due("mark " + i + " stays", x.of(i / 4, 3 + i % 4), 0);
+        }
+        due("all live", x.count(1), 3);
+        due("week", x.count(14), 999);
+        due("nothing can be undone", x.count(6), 0);
+        x.terms(0, 998);
+        due("a week ahead", x.ends(0), 1);
+        due("nothing to change then", x.chatter(0, NONE), 1);
+        due("now it could be", x.were(0, NONE, 0), 4);
+        x.terms(0, 997);
+        due("barred", x.were(0, NONE, 0), 1);
+
+        edge("terms III", "of a ROLL's DAY");
+        RollsAgree y = under(folk(1, 0, 0), "takes mark;takes day if person=1");
+        for (int day = 0; day < 4; day++) {
+            y.roll(day, 3);
+            due("ends of day " + day, y.ends(day), 1);
+            due("chatter of day " + day, y.chatter(day, 1), day);
+            y.told(0, 1, day);
+            due("were of day " + day, y.were(day, NONE, 0), day == 0 ? 4 : 0);
+        }
+        RollsAgree z = under(folk(1, 0, 0), "takes 0;takes day if person=1");
+        z.person(1, 1, marks(0, 0, 1, 0));
+        z.roll(2, 4 + 1);
+        due("the talk of day 2", z.soonest(0, NONE), 1);
+        due("no other than day 2's", z.ends(0), 1);
+    }
+
     private static void soonest() {
         edge("terms III", "SOONEST: the fewest TALKS of a ROLL's DAY (of any who live) behind which it AGREES;");
         RollsAgree x = folk(1, 0, 1, 2, 0);
@@ -974,12 +1155,13 @@ public final class TermsEdgeRuns extends Edges {
 
     private static void givings() {
         edge("terms III", "those who live hang together by ROLLS not DONE of it (ON one, or by others in a chain)");
-        RollsAgree x = folk(1, 1, 1, 2, 1, 1, 1);
+        RollsAgree x = folk(1, 3, 3, 1, 1, 1, 1);
         for (int i = 4; i >= 0; i--) {
             x.roll(0, 3 << i);
         }
-        due("a chain through all", x.givings(9), 1);
-        due("one gives", x.givings(0), 1);
+        due("a chain through all, from its low end", x.givings(1), 1);
+        due("from its high end", x.givings(21), 1);
+        due("two give", x.givings(0), 2);
         RollsAgree y = folk(1, 1, 1, 2, 2);
         y.roll(0, 3);
         y.roll(0, 12);
@@ -1114,6 +1296,18 @@ public final class TermsEdgeRuns extends Edges {
         due("what is cut is lost", y.chance(0, 3), 283593 + 3 * 148055 + 3 * 77295 + 40353);
         due("of one alone nothing is", y.chance(1, 3), 1000000);
 
+        edge("terms III", "of all sets that may live yet by which it AGREES");
+        RollsAgree w = folk(1, 0, 1, 1);
+        w.roll(0, 7);
+        // Nobody 8000, one alone 32000 each, 1 with 2 128000.
+        due("nobody, too", w.chance(0, 1), 232000);
+        w.terms(1, 0);
+        due("all three", w.chance(0, 1), 0);
+        w.talk(0, 1, 0);
+        due("all three, now agreeing", w.chance(0, 1), 1000000);
+        w.terms(1, 10);
+        due("nobody", w.chance(0, 1), 1000000);
+
         edge("terms III", "if each who lives ON it dies in RATE of ten each WEEK");
         RollsAgree z = folk(1, 0, 1, 1);
         z.roll(0, 7);
@@ -1211,6 +1405,22 @@ public final class TermsEdgeRuns extends Edges {
         due("they took 1", x.drawn(1, 1) + x.drawn(2, 1), 2);
         due("week", x.count(14), 997);
 
+        edge("terms IV", "DRAWS of 4 (a DAY), of PEOPLE, of PEOPLE:");
+        RollsAgree w = under(folk(1, 0, 0, 0, 0, 0, 0), "takes 3");
+        w.bury(0);
+        w.bury(2);
+        // 628841 is 5 of six and 1 of the four who live, 621889 is 1 of both.
+        due("of all, also dead ones", w.years(0, 1), 2);
+        due("5 talked", w.drawn(5, 1), 3);
+        due("with 1", w.drawn(1, 1), 3);
+        int[] all = marksBehind(0, 100, 6);
+        due("one alone draws himself", under(folk(1, 2), "takes 3").years(1, 100), 0);
+        RollsAgree v = under(folk(1, 0, 0, 0, 0, 0, 0), "takes 3");
+        v.years(0, 100);
+        for (int i = 0; i < 24; i++) {
+            due("mark " + i, v.drawn(i / 4, i % 4), all[i]);
+        }
+
         edge("terms IV", "those two TALK of it, if they can; then the WEEK passes.");
         RollsAgree y = under(folk(1, 0, 0, 0), "takes 3;bars if week=0");
         due("barred", y.years(0, 1), 0);
@@ -1222,6 +1432,17 @@ public final class TermsEdgeRuns extends Edges {
         y.bury(1);
         due("the first is dead", y.years(0, 1), 0);
         due("one alone", under(folk(1, 0), "takes 3").years(0, 100), 0);
+        for (int i = 0; i < 16; i++) {
+            RollsAgree two = new RollsAgree();
+            two.person(1, 1, marks(0, 1, 0, 0));
+            two.person(1, 1, marks(0, i / 4, 0, 0));
+            two.person(1, 1, marks(0, i % 4, 0, 0));
+            due("one takes the other's", two.years(0, 1), i / 4 == i % 4 ? 0 : 1);
+            due("1 has what 2 has", two.drawn(0, 1) * 100 + two.drawn(1, 1) * 10 + two.drawn(2, 1), 100 + i % 4 * 11);
+            under(two, "takes its");
+            due("each takes the other's", two.years(0, 1), i / 4 == i % 4 ? 0 : 2);
+            due("crosswise", two.drawn(0, 1) * 100 + two.drawn(1, 1) * 10 + two.drawn(2, 1), 100 + i % 4 * 10 + i / 4);
+        }
         RollsAgree z = under(folk(1, 0, 0, 0), "takes 1-week");
         due("the first week", z.years(0, 1), 2);
         z.terms(0, 1);
@@ -1359,8 +1580,56 @@ public final class TermsEdgeRuns extends Edges {
         x.back(0);
         x.back(1);
         due("kept anew", x.of(0, 6), 2);
+        oneThenTheOther();
 
         edge("terms IV", "`NONE = -1`: There is none.");
         due("NONE", RollsAgree.NONE, -1);
+    }
+
+    /** Two full worlds that differ in all: each comes back whole over the other. */
+    private static void oneThenTheOther() {
+        RollsAgree x = new RollsAgree();
+        x.image(0);
+        fill(x, 0);
+        x.image(1);
+        x.back(0);
+        fill(x, 1);
+        x.image(0);
+        for (int k = 1; k >= 0; k--) {
+            due("back", x.back(k), 0);
+            int which = 1 - k;
+            for (int i = 0; i < 6; i++) {
+                due(k + ": firm of " + i, x.of(i, 0), i + which);
+                due(k + ": age of " + i, x.of(i, 1), 10 * i + which);
+                due(k + ": marks of " + i, x.of(i, 3) * 1000 + x.of(i, 4) * 100 + x.of(i, 5) * 10 + x.of(i, 6), which * 1111 + i % 2);
+            }
+            for (int i = 0; i < 8; i++) {
+                due(k + ": day of roll " + i, x.at(i, 0), (i + which) % 4);
+                due(k + ": who is on roll " + i, x.at(i, 1), 1 + i + which);
+            }
+            for (int law = 0; law < 6; law++) {
+                x.force(law);
+                due(k + ": law " + law, x.asks(0, 1, 0, 1), law + which);
+            }
+            x.force(NONE);
+            // The less firm one of the two who talked had any mark.
+            due(k + ": told of its day", x.were(which, NONE, 0), 4);
+            due(k + ": who talked", x.were(which, 3, which), 3);
+            due(k + ": who did not", x.were(which, 3, 1 - which), which);
+            due(k + ": told of the other day", x.were(1 - which, NONE, 0), 1);
+        }
+    }
+
+    private static void fill(RollsAgree x, int which) {
+        for (int i = 0; i < 6; i++) {
+            x.person(i + which, 10 * i + which, which * 85 + i % 2);
+        }
+        for (int i = 0; i < 8; i++) {
+            x.roll((i + which) % 4, 1 + i + which);
+            x.told(i % 2 == 0 ? which : 5, i % 2 == 0 ? 5 : which, which);
+        }
+        for (int law = 0; law < 6; law++) {
+            law(x, "sways " + (law + which));
+        }
     }
 }
