@@ -722,6 +722,16 @@ public final class PromiseEdgeRuns extends Edges {
         due("what was behind it", x.undo(), 2);
         due("no more", x.undo(), -3);
         due("week", x.count(14), 6);
+        RollsAgree full = folk(1, 0, 0, 0, 0, 0, 0);
+        for (int i = 0; i < 8; i++) {
+            full.roll(0, 1);
+        }
+        full.pass();
+        due("no room for a person", full.person(1, 1, 1), -5);
+        due("it does not matter", full.count(6), 1);
+        due("no room for a roll", full.roll(0, 1), -5);
+        due("it does not matter", full.count(6), 1);
+        due("undone", full.undo(), 3);
     }
 
     private static void soonest() {
@@ -823,6 +833,16 @@ public final class PromiseEdgeRuns extends Edges {
         }
         due("only on paper", x.of(5, 3), 0);
         due("status", x.status(), 0);
+        RollsAgree one = new RollsAgree();
+        one.person(1, 1, marks(0, 1, 2, 3));
+        for (int day = 0; day < 4; day++) {
+            due("the only one's of day " + day, one.givings(1 + day), day);
+            due("a second one's", one.givings(5 + day), NONE);
+        }
+        for (int i = 0; i < 8; i++) {
+            one.roll(i % 4, 1);
+        }
+        due("with no room for rolls", one.givings(4), 3);
     }
 
     private static void told() {

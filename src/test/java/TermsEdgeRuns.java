@@ -10,6 +10,7 @@ public final class TermsEdgeRuns extends Edges {
         terms();
         refusals();
         refusalsInOrder();
+        refusalsChangeNothing();
         tape();
         tokens();
         clauses();
@@ -331,6 +332,86 @@ public final class TermsEdgeRuns extends Edges {
         due("-5 ahead of -6: no law", law(y, ""), -5);
     }
 
+    private static void refusalsChangeNothing() {
+        edge("terms I", "REFUSED by: -1 a number that can't be; -2 there is no such PERSON, ROLL, LAW, IMAGE; -3 it can't be by what stands; -5 no room; -6 a TEXT, a ROW that can't be.");
+        refusedBy(-1, x -> x.person(10, 0, 0), x -> x.person(0, 100, 0), x -> x.person(0, 0, 256), x -> x.roll(4, 1), x -> x.roll(0, 0),
+                x -> x.roll(0, 64), x -> x.terms(0, 1000), x -> x.terms(1, 11), x -> x.terms(2, -1), x -> x.terms(3, 0),
+                x -> x.talk(0, 1, 4), x -> x.talk(1, 1, 0), x -> x.told(0, 1, -1), x -> x.told(1, 1, 0), x -> x.years(-1, 1),
+                x -> x.years(0, 101), x -> x.image(2), x -> x.back(-1));
+        refusedBy(-2, x -> x.talk(0, 6, 0), x -> x.talk(-1, 0, 0), x -> x.told(6, 0, 0), x -> x.develop(8), x -> x.develop(-1),
+                x -> x.bury(6), x -> x.bury(-1), x -> x.force(6), x -> x.force(-2), x -> x.back(0), x -> x.back(1));
+        refusedBy(-3, x -> x.talk(0, 5, 0), x -> x.talk(3, 0, 0), x -> x.talk(0, 3, 0), x -> x.develop(0), x -> x.develop(1),
+                x -> x.bury(5), x -> x.pass());
+        refusedBy(-5, x -> x.person(1, 1, 1), x -> x.roll(0, 1), x -> x.told(0, 1, 0));
+    }
+
+    private interface Call {
+        int of(RollsAgree x);
+    }
+
+    private static void refusedBy(int reason, Call... calls) {
+        for (int i = 0; i < calls.length; i++) {
+            RollsAgree x = fullWorld();
+            int[] before = allOf(x);
+            due("call " + i, calls[i].of(x), reason);
+            due("status of call " + i, x.status(), reason);
+            int[] after = allOf(x);
+            for (int k = 0; k < before.length; k++) {
+                due("all behind call " + i + ", number " + k, after[k], before[k]);
+            }
+        }
+    }
+
+    /** No room for anybody or anything, and something of each kind that can be lost. */
+    private static RollsAgree fullWorld() {
+        RollsAgree x = folk(4, 0, 1, 2, 3, 2, 1);
+        for (int i = 0; i < 8; i++) {
+            x.roll(i % 4, 3);
+            x.told(0, 1, 1);
+        }
+        for (int i = 0; i < 6; i++) {
+            law(x, i == 5 ? "bars if person=3" : "takes " + i);
+        }
+        x.terms(0, 999);
+        x.force(5);
+        put(x, "\u00ff");
+        x.row();
+        x.years(0, 1);
+        x.develop(1);
+        x.bury(5);
+        orders(x, "talk 1 with 2 of 0;bury 9");
+        law(x, "?");
+        x.feed(1, 2, 3, 4, 5);
+        return x;
+    }
+
+    private static int[] allOf(RollsAgree x) {
+        int[] all = new int[125];
+        int n = 0;
+        for (int what = 0; what <= 16; what++) {
+            all[n++] = what >= 8 && what <= 12 ? 0 : x.count(what);
+        }
+        for (int i = 0; i < 42; i++) {
+            all[n++] = x.of(i / 7, i % 7);
+        }
+        for (int i = 0; i < 32; i++) {
+            all[n++] = x.at(i / 4, i % 4);
+        }
+        for (int i = 0; i < 24; i++) {
+            all[n++] = x.drawn(i / 4, i % 4);
+        }
+        for (int day = 0; day < 4; day++) {
+            all[n++] = x.were(day, NONE, 0);
+        }
+        for (int what = 0; what < 3; what++) {
+            all[n++] = x.asks(3, 0, 0, what);
+        }
+        all[n++] = x.grain();
+        all[n++] = x.fault();
+        all[n++] = x.stopped();
+        return all;
+    }
+
     private static void tape() {
         edge("terms II", "TEXTS are on a TAPE of at most 400 bytes.");
         String blanks = " ".repeat(396);
@@ -349,6 +430,20 @@ public final class TermsEdgeRuns extends Edges {
         due("tape", x.count(7), 400);
         due("a fault within", x.orders(), -6);
         due("it is empty", x.count(7), 0);
+        // Nearly 400 tokens.
+        String full = "takes" + "[[[[[[[[1]]]]]]]]+".repeat(21) + "[[[[[[[1]]]]]]]";
+        lawful(full + "+1");
+        lawful(full + " ");
+        faulty(false, full + "+[", 400);
+        faulty(false, full + "+]", 399);
+        faulty(false, full + "1", 398);
+        // A long text leaves nothing behind that the next ones meet.
+        RollsAgree y = new RollsAgree();
+        String longest = "pass if " + "week+".repeat(48) + "done>1000";
+        for (int i = 0; i < 10; i++) {
+            due("long " + i, orders(y, i % 2 == 0 ? longest : longest.substring(0, 200)), i % 2 == 0 ? 0 : -6);
+            due("short " + i, orders(y, "pass if week=" + i + ";pass if week=" + i), 1);
+        }
     }
 
     private static void tokens() {
@@ -1222,6 +1317,10 @@ public final class TermsEdgeRuns extends Edges {
         RollsAgree z = under(folk(1, 2, 2), "bars");
         z.told(0, 1, 0);
         due("all barred: as now", z.were(0, NONE, 0), 1);
+        RollsAgree last = folk(1, 3, 3, 3, 3, 3, 3);
+        last.told(5, 4, 0);
+        due("the last two, the higher one first", last.were(0, NONE, 0), 4);
+        due("4 had any", last.were(0, 2, 4) * 10 + last.were(0, 2, 5), 23);
         RollsAgree all = under(folk(1, 3, 3, 3, 3, 3, 3), "takes 3");
         all.told(0, 1, 0);
         all.told(3, 2, 0);
