@@ -1,4 +1,6 @@
 import java.io.IOException;
+import java.io.PrintWriter;
+import java.io.StringWriter;
 import java.lang.management.ManagementFactory;
 import java.lang.reflect.Constructor;
 import java.lang.reflect.Field;
@@ -6,11 +8,17 @@ import java.lang.reflect.Method;
 import java.lang.reflect.Modifier;
 import java.nio.file.Files;
 import java.nio.file.Path;
+import java.util.HashMap;
+import java.util.HashSet;
 import java.util.List;
+import java.util.Map;
+import java.util.Optional;
 import java.util.Set;
+import java.util.TreeMap;
 import java.util.TreeSet;
 import java.util.regex.Matcher;
 import java.util.regex.Pattern;
+import java.util.spi.ToolProvider;
 
 /** The form of the class: its face, what can be seen of LANGUAGE.md in the source, and the room that a run takes. */
 public final class FormRuns {
@@ -23,11 +31,86 @@ public final class FormRuns {
     public static void main(String[] args) throws IOException {
         face();
         source(Files.readString(SOURCE));
+        callDepth();
         room();
         System.out.println(wrong == 0 ? "the form is as due" : wrong + " faults of form");
         if (wrong != 0) {
             System.exit(1);
         }
+    }
+
+    /** The longest chains of the class's own calls; those that call one another (recursion) count once. */
+    private static void callDepth() throws IOException {
+        Map<String, Set<String>> calls = new TreeMap<>();
+        for (Class<?> c : RollsAgree.class.getDeclaredClasses()) {
+            addCalls(c, calls);
+        }
+        addCalls(RollsAgree.class, calls);
+        if (calls.isEmpty()) {
+            System.out.println("no javap here: how deep calls go was not looked at");
+            return;
+        }
+        hold("calls were found", calls.size() > 37);
+        Map<String, Set<String>> reached = new HashMap<>();
+        for (String method : calls.keySet()) {
+            Set<String> all = new HashSet<>();
+            reach(method, calls, all);
+            reached.put(method, all);
+        }
+        Map<String, Integer> depths = new HashMap<>();
+        for (String method : calls.keySet()) {
+            int depth = depthOf(method, calls, reached, depths);
+            hold("calls go at most eight deep from " + method + ", not " + depth, depth <= 8);
+        }
+    }
+
+    private static void addCalls(Class<?> c, Map<String, Set<String>> calls) throws IOException {
+        Optional<ToolProvider> javap = ToolProvider.findFirst("javap");
+        if (javap.isEmpty()) {
+            return;
+        }
+        StringWriter out = new StringWriter();
+        String file = c.getResource(c.getName() + ".class").getPath();
+        javap.get().run(new PrintWriter(out), new PrintWriter(out), "-c", "-p", "-s", file);
+        Pattern head = Pattern.compile("  \\S.*?([\\w$]+)\\(.*\\);");
+        Pattern call = Pattern.compile(".*// Method (?:(RollsAgree[\\w$]*)\\.)?\"?([\\w<>]+)\"?:(\\S+)");
+        String name = "";
+        String method = "";
+        for (String line : out.toString().split("\\R")) {
+            Matcher called = call.matcher(line);
+            Matcher begun = head.matcher(line);
+            if (begun.matches()) {
+                name = begun.group(1).equals(c.getName()) ? "<init>" : begun.group(1);
+            } else if (line.startsWith("    descriptor: ")) {
+                method = c.getName() + "." + name + line.substring(16);
+                calls.put(method, new TreeSet<>());
+            } else if (called.matches() && calls.containsKey(method)) {
+                String owner = called.group(1) == null ? c.getName() : called.group(1);
+                calls.get(method).add(owner + "." + called.group(2) + called.group(3));
+            }
+        }
+    }
+
+    private static void reach(String method, Map<String, Set<String>> calls, Set<String> all) {
+        for (String called : calls.getOrDefault(method, Set.of())) {
+            if (all.add(called)) {
+                reach(called, calls, all);
+            }
+        }
+    }
+
+    private static int depthOf(String method, Map<String, Set<String>> calls, Map<String, Set<String>> reached, Map<String, Integer> depths) {
+        if (depths.containsKey(method)) {
+            return depths.get(method);
+        }
+        int deepest = 0;
+        for (String behind : reached.getOrDefault(method, Set.of())) {
+            if (!reached.getOrDefault(behind, Set.of()).contains(method)) {
+                deepest = Math.max(deepest, depthOf(behind, calls, reached, depths));
+            }
+        }
+        depths.put(method, deepest + 1);
+        return deepest + 1;
     }
 
     private static void hold(String what, boolean holds) {
@@ -59,6 +142,8 @@ public final class FormRuns {
         for (Field f : c.getDeclaredFields()) {
             hold(f + " is NONE or private", f.getName().equals("NONE") != Modifier.isPrivate(f.getModifiers()));
         }
+        hold("the class has at most 20 fields", List.of(c.getDeclaredFields()).stream()
+                .filter(f -> !Modifier.isStatic(f.getModifiers())).count() <= 20);
         for (Class<?> inner : c.getDeclaredClasses()) {
             hold(inner + " is private and static", Modifier.isPrivate(inner.getModifiers()) && Modifier.isStatic(inner.getModifiers()));
             int fields = 0;
